@@ -14,7 +14,10 @@ public final class AtTheDoor {
     private static final int MOST_CALLERS = 7, MOST_HEARD = 6, MOST_TEXTS = 6, MOST_BYTES = 160;
     private static final int MOST_SHEETS = 4, MOST_CELLS = 40, MOST_DRAWN = 30;
     private static final int KINDS = 6, NUMBERS = 10, SIGNS = 4, SORTS = 3, MISSING = -1;
-    private static final int HOURS = 24, DAYS = 7, MINUTES = 21;
+    private static final int HOURS = 24, MINUTES = 21;
+    // What set() may put, by its number: HOUR, DAY, AT HOME, DOG, NOTICE; a NUMBER comes behind them.
+    private static final int[] HOUSE_BOUNDS = {24, 7, 2, 2, 2};
+    private static final int DOG = 3;
     private static final int COMES = 0, WORTH = 1, COSTS = 2;
 
     // Two numbers below 2^63 have their common divisor within 92 steps.
@@ -59,15 +62,15 @@ public final class AtTheDoor {
     // ---- the house, callers
 
     public int set(int what, int of, int v) {
-        switch (what) {
-            case 0: return setHour(v);
-            case 1: return setDay(v);
-            case 2: return setAtHome(v);
-            case 3: return setDog(v);
-            case 4: return setNotice(v);
-            case 5: return setNumber(of, v);
-            default: return BAD;
+        if (what == HOUSE_BOUNDS.length) {
+            return setNumber(of, v);
         }
+        if (!isBelow(what, HOUSE_BOUNDS.length) || !isBelow(v, HOUSE_BOUNDS[what])) {
+            return BAD;
+        }
+        int was = now.part(what);
+        now.putPart(what, v);
+        return was;
     }
 
     public int caller(int kind, int number) {
@@ -108,7 +111,7 @@ public final class AtTheDoor {
             case 0: return c.kind;
             case 1: return c.number;
             case 2: return c.waits(now.hour);
-            case 3: return c.stays(now.dog == 1, now.notice == 1) ? 1 : 0;
+            case 3: return staysIn(now, c) ? 1 : 0;
             case 4: case 5: case 6: case 7: return soundsOf(c, what - 4, now.signs);
             default: return BAD;
         }
@@ -197,10 +200,11 @@ public final class AtTheDoor {
     }
 
     public long peep(int what, int part) {
-        if (what == 0) {
-            return peeping(part);
+        if (what < 0 || what > 1 || (what == 1 && now.signs >= MOST_HEARD)) {
+            return NO;
         }
-        return what == 1 ? listening(part) : NO;
+        reckon(now);
+        return what == 0 ? peeping(part) : listening(part);
     }
 
     public int tells() {
@@ -226,10 +230,10 @@ public final class AtTheDoor {
             return NO;
         }
         thought.become(now);
-        thought.putGuard(what, 1);
+        thought.putPart(DOG + what, 1);
         reckon(thought);
         long with = gainAt(0);
-        thought.putGuard(what, 0);
+        thought.putPart(DOG + what, 0);
         reckon(thought);
         return with - gainAt(0);
     }
@@ -291,8 +295,7 @@ public final class AtTheDoor {
         if (s == null || refusal != 0) {
             return refusal;
         }
-        thought.become(now);
-        thought.signs = 0;
+        thought.becomeUnheard(now);
         for (int i = 0; i < s.size; i++) {
             thought.add(s.at(i));
             reckon(thought);
@@ -309,8 +312,7 @@ public final class AtTheDoor {
         if (s == null || refusal != 0) {
             return refusal;
         }
-        thought.become(now);
-        thought.signs = 0;
+        thought.becomeUnheard(now);
         for (int i = 0; i < s.size; i++) {
             thought.add(s.at(i));
         }
@@ -344,7 +346,8 @@ public final class AtTheDoor {
         if (n < 1 || n > MOST_DRAWN) {
             return NO;
         }
-        reckonUnheard();
+        thought.becomeUnheard(now);
+        reckon(thought);
         long sum = 0;
         int z = seed;
         for (int i = 0; i < n; i++) {
@@ -361,7 +364,8 @@ public final class AtTheDoor {
         if (n < 1 || n > MOST_DRAWN || callerAt(who) == null) {
             return NO;
         }
-        reckonUnheard();
+        thought.becomeUnheard(now);
+        reckon(thought);
         int times = 0;
         int z = seed;
         for (int i = 0; i < n; i++) {
@@ -402,11 +406,7 @@ public final class AtTheDoor {
         switch (what) {
             case 0: return callerCount;
             case 1: return now.signs;
-            case 2: return now.hour;
-            case 3: return now.day;
-            case 4: return now.atHome;
-            case 5: return now.dog;
-            case 6: return now.notice;
+            case 2: case 3: case 4: case 5: case 6: return now.part(what - 2);
             case 7: return textCount;
             case 8: return reader.tape.size;
             case 9: return now.rule;
@@ -519,51 +519,6 @@ public final class AtTheDoor {
         return isBelow(sheet, sheets.length) ? sheets[sheet] : null;
     }
 
-    private int setHour(int v) {
-        if (!isBelow(v, HOURS)) {
-            return BAD;
-        }
-        int was = now.hour;
-        now.hour = v;
-        return was;
-    }
-
-    private int setDay(int v) {
-        if (!isBelow(v, DAYS)) {
-            return BAD;
-        }
-        int was = now.day;
-        now.day = v;
-        return was;
-    }
-
-    private int setAtHome(int v) {
-        if (!isBelow(v, 2)) {
-            return BAD;
-        }
-        int was = now.atHome;
-        now.atHome = v;
-        return was;
-    }
-
-    private int setDog(int v) {
-        if (!isBelow(v, 2)) {
-            return BAD;
-        }
-        int was = now.dog;
-        now.dog = v;
-        return was;
-    }
-
-    private int setNotice(int v) {
-        if (!isBelow(v, 2)) {
-            return BAD;
-        }
-        int was = now.notice;
-        now.notice = v;
-        return was;
-    }
-
     private int setNumber(int who, int v) {
         Caller c = callerAt(who);
         if (c == null || !isBelow(v, NUMBERS)) {
@@ -644,12 +599,6 @@ public final class AtTheDoor {
         costs = within(0, 99, valueOf(COSTS, s, 0, 0));
     }
 
-    private void reckonUnheard() {
-        thought.become(now);
-        thought.signs = 0;
-        reckon(thought);
-    }
-
     private int heaviest() {
         int best = NONE;
         long most = 0;
@@ -674,7 +623,6 @@ public final class AtTheDoor {
     }
 
     private long peeping(int part) {
-        reckon(now);
         long good = 0;
         long any = 0;
         for (int i = 0; i < callerCount; i++) {
@@ -686,10 +634,6 @@ public final class AtTheDoor {
     }
 
     private long listening(int part) {
-        if (now.signs >= MOST_HEARD) {
-            return NO;
-        }
-        reckon(now);
         long good = 0;
         long any = 0;
         long below = 0;
@@ -943,6 +887,11 @@ public final class AtTheDoor {
             System.arraycopy(other.heard, 0, heard, 0, heard.length);
         }
 
+        void becomeUnheard(Scene other) {
+            become(other);
+            signs = 0;
+        }
+
         void add(int sign) {
             if (signs < heard.length) {
                 heard[signs] = sign;
@@ -954,11 +903,25 @@ public final class AtTheDoor {
             return i >= 0 && i < signs ? heard[i] : NONE;
         }
 
-        void putGuard(int what, int v) {
-            if (what == 0) {
-                dog = v;
-            } else {
-                notice = v;
+        int part(int what) {
+            switch (what) {
+                case 0: return hour;
+                case 1: return day;
+                case 2: return atHome;
+                case 3: return dog;
+                case 4: return notice;
+                default: return BAD;
+            }
+        }
+
+        void putPart(int what, int v) {
+            switch (what) {
+                case 0: hour = v; break;
+                case 1: day = v; break;
+                case 2: atHome = v; break;
+                case 3: dog = v; break;
+                case 4: notice = v; break;
+                default: break;
             }
         }
     }
@@ -1307,7 +1270,7 @@ public final class AtTheDoor {
                     lay(top, step >= 0 ? step : nameValue(step, s, sort, who));
                 } else if (step == Tape.NOT || step == Tape.NEGATE) {
                     int v = at(top);
-                    lay(top, step == Tape.NEGATE ? -v : truth(v == 0));
+                    lay(top, step == Tape.NEGATE ? -v : v == 0 ? 1 : 0);
                 } else {
                     top--;
                     lay(top, joined(step, at(top), at(top + 1)));
@@ -1326,10 +1289,6 @@ public final class AtTheDoor {
             }
         }
 
-        private static int truth(boolean b) {
-            return b ? 1 : 0;
-        }
-
         private static int nameValue(int name, Scene s, int sort, int who) {
             switch (name) {
                 case Tape.HOUR: return s.hour;
@@ -1344,10 +1303,10 @@ public final class AtTheDoor {
 
         private static int joined(int step, int a, int b) {
             switch (step) {
-                case Tape.OR: return truth(a != 0 || b != 0);
-                case Tape.AND: return truth(a != 0 && b != 0);
-                case Tape.LESS: return truth(a < b);
-                case Tape.EQUAL: return truth(a == b);
+                case Tape.OR: return a != 0 || b != 0 ? 1 : 0;
+                case Tape.AND: return a != 0 && b != 0 ? 1 : 0;
+                case Tape.LESS: return a < b ? 1 : 0;
+                case Tape.EQUAL: return a == b ? 1 : 0;
                 case Tape.PLUS: return a + b;
                 case Tape.MINUS: return a - b;
                 case Tape.TIMES: return a * b;
