@@ -54,6 +54,9 @@ public final class TextsTest {
         faultAt(25, "comes 1;worth 2;costs 3; 1");
         faultAt(24, "comes 1;worth 2;costs 3;;");
         faultAt(25, "comes 1;worth 2;costs 3; comes");
+        faultAt(24, "comes 1;worth 2;costs 3;$");
+        faultAt(24, "comes 1;worth 2;costs 3;x");
+        faultAt(24, "comes 1;worth 2;costs 3;12345");
         faultAt(0, "worth 1;comes 1;costs 1;");
         faultAt(8, "comes 1;costs 1;");
         faultAt(0, "1;");
@@ -67,6 +70,12 @@ public final class TextsTest {
         faultIn(0, "$");
         faultIn(0, "hours");
         faultIn(0, "hou");
+        faultIn(0, "hourz");
+        faultIn(0, "ahour");
+        faultIn(4, "hour`");
+        faultIn(4, "hour{");
+        faultIn(1, "1:");
+        faultIn(0, "/1");
         faultIn(0, "x");
         faultIn(0, "12345");
         faultIn(0, "00000");
