@@ -3,8 +3,9 @@ final class Boundaries {
     private Boundaries() {
     }
 
-    static Boundary run() {
-        Boundary b = new Boundary();
+    /** Runs the one test of that name, or all if it is empty. */
+    static Boundary run(String only) {
+        Boundary b = new Boundary(only);
         new RefusalBoundaries(b).all();
         new HouseBoundaries(b).all();
         new TextBoundaries(b).all();

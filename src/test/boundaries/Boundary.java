@@ -21,9 +21,14 @@ final class Boundary {
     final List<String> failed = new ArrayList<>();
     final StringBuilder said = new StringBuilder();
 
+    private final String only;
     private String name = "";
     private int checks = 0;
     private int wrong = 0;
+
+    Boundary(String only) {
+        this.only = only;
+    }
 
     /** Promise 0 stands for sentences that are about all of them. */
     static String nameOf(int promise, String words) {
@@ -32,6 +37,9 @@ final class Boundary {
 
     void test(int promise, String words, Runnable test) {
         name = nameOf(promise, words);
+        if (!only.isEmpty() && !only.equals(name)) {
+            return;
+        }
         checks = 0;
         wrong = 0;
         try {

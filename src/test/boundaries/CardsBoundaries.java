@@ -204,12 +204,12 @@ final class CardsBoundaries {
             for (int i = 0; i < 7; i++) {
                 x.caller(0, 0);
             }
-            x.force(5);
+            x.force(2);
             b.due("the first", x.laws(0), 1 + 8);
             b.due("the last", x.laws(6), 2 + 16 + 32);
             b.due("another", x.laws(3), 0);
             b.due("nobody", x.laws(NONE), 4);
-            b.due("the rule stays", x.count(9), 5);
+            b.due("the rule stays", x.count(9), 2);
         });
         b.test(23, "BAD.", () -> {
             for (int who : new int[] {-2, 2, 7, LOW, HIGH}) {
@@ -310,6 +310,14 @@ final class CardsBoundaries {
             times(Houses.coming("who", 0, 0), 5, 30, 0, 0, 1);
             times(Houses.coming("0", 0), 5, 30, 0, 0, 1);
             times(Houses.coming("0", 0), 5, 1, 0, 0, 1);
+            // By seed 0 one of two is drawn so often that the count and 30 have a divisor in common.
+            long ones = 0;
+            for (long mark : marks(0, 30, 2)) {
+                ones += mark;
+            }
+            long common = common(ones, 30);
+            b.due("they have one", common > 1 ? 1 : 0, 1);
+            times(Houses.coming("1", 0, 0), 0, 30, 1, ones / common, 30 / common);
         });
         b.test(25, "NO: n, no such CALLER, part.", () -> {
             for (int n : new int[] {-1, 0, 31, LOW, HIGH}) {

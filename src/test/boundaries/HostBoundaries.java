@@ -43,10 +43,14 @@ final class HostBoundaries {
             x.set(5, 0, 0);
             x.set(5, 6, 0);
             x.hush();
-            Houses.hearing(x, 3, 3);
+            Houses.hearing(x, 3, 3, 3, 3, 3, 3);
             x.force(0);
             x.back();
-            b.due("counts", Houses.counts(x), were);
+            b.due("counts, behind six other signs", Houses.counts(x), were);
+            x.hush();
+            x.hear(2);
+            x.back();
+            b.due("counts, behind one other sign", Houses.counts(x), were);
             b.due("the first's number", x.told(0, 1), 1);
             b.due("the last's number", x.told(6, 1), 9);
             x = new AtTheDoor();

@@ -111,6 +111,9 @@ final class HouseBoundaries {
             }
             b.refused("set(5, 7, 0) with seven callers", Houses::full, x -> x.set(5, 7, 0), BAD);
             b.refused("set(0, 0, 24)", Houses::furnished, x -> x.set(0, 0, 24), BAD);
+            AtTheDoor x = Houses.furnished();
+            x.back();
+            b.due("the number of one who is gone", x.set(5, 1, 0), BAD);
         });
     }
 
@@ -211,7 +214,7 @@ final class HouseBoundaries {
         b.test(4, "BAD; FULL.", () -> {
             b.refused("hear(4)", Houses::furnished, x -> x.hear(4), BAD);
             b.refused("hear(-1)", Houses::furnished, x -> x.hear(-1), BAD);
-            b.refused("a seventh", Houses::full, x -> x.hear(0), FULL);
+            b.refused("a seventh", Houses::full, x -> x.hear(3), FULL);
             b.refused("a seventh that is none", Houses::full, x -> x.hear(4), BAD);
             b.refused("a seventh that is none", Houses::full, x -> x.hear(-1), BAD);
         });

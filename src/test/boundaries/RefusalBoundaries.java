@@ -89,7 +89,7 @@ final class RefusalBoundaries {
         b.refused("caller", Houses::furnished, x -> x.caller(6, 0), BAD);
         b.refused("caller", Houses::full, x -> x.caller(0, 0), FULL);
         b.refused("hear", Houses::furnished, x -> x.hear(4), BAD);
-        b.refused("hear", Houses::full, x -> x.hear(0), FULL);
+        b.refused("hear", Houses::full, x -> x.hear(3), FULL);
         b.refused("told", Houses::furnished, x -> x.told(2, 0), BAD);
         b.refused("feed", Houses::furnished, x -> x.feed(256), BAD);
         b.refused("feed", Houses::full, x -> x.feed(32), FULL);

@@ -185,6 +185,7 @@ final class TextBoundaries {
             b.due("no blanks", Houses.text(new AtTheDoor(), "comes1;worth2;costs3;"), 1);
         });
         b.test(8, "WORDS (a .. z),", () -> {
+            tells(1, "day = 0 and 1");
             faultIn(0, "ahour");
             faultIn(0, "hourz");
             faultIn(4, "hour`");
@@ -213,6 +214,7 @@ final class TextBoundaries {
             tells(0, "3=4");
             faultIn(1, "1)");
             for (char c : "!\"#$%&',./:>?@[\\]^_`{|}~".toCharArray()) {
+                faultIn(0, c + "1");
                 faultIn(1, "1" + c + "1");
             }
         });

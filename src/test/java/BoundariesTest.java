@@ -4,7 +4,7 @@ import java.nio.file.Path;
 /** Each sentence of the document has its test under src/test/boundaries, names words that stand there, and holds. */
 public final class BoundariesTest {
     public static void main(String[] args) throws IOException {
-        Boundary b = Boundaries.run();
+        Boundary b = Boundaries.run("");
         System.out.print(b.said);
         int wrong = b.failed.size();
         Document document = new Document(Path.of("../shared/DOC.md"));
