@@ -210,6 +210,13 @@ final class CardsBoundaries {
             b.due("another", x.laws(3), 0);
             b.due("nobody", x.laws(NONE), 4);
             b.due("the rule stays", x.count(9), 2);
+            // A quiet one and a caller, alike but for the knock that is heard, and the dog.
+            x = Houses.coming("hour=20", 2, 0);
+            x.set(0, 0, 20);
+            x.hear(2);
+            b.due("as it is now", x.laws(0), 3);
+            x.set(3, 0, 1);
+            b.due("as it is with a dog", x.laws(1), 3);
         });
         b.test(23, "BAD.", () -> {
             for (int who : new int[] {-2, 2, 7, LOW, HIGH}) {

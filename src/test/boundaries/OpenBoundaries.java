@@ -103,6 +103,13 @@ final class OpenBoundaries {
             AtTheDoor x = worth("3-who*4", 0, 2);
             x.set(3, 0, 1);
             peeps("who goes at once counts in none", x, 0, 0, 1);
+            peeps("seven", worth("3-who*2", 0, 0, 0, 0, 0, 0, 0), 0, 4, 7);
+            x = worth("3-who*6", 0);
+            x.image();
+            x.caller(0, 0);
+            peeps("two", x, 0, 3, 2);
+            x.back();
+            peeps("one who is gone counts no more", x, 0, 0, 1);
         });
         b.test(15, "PEEP (what 0), LISTEN (1): part 0 above, 1 below the line, in lowest terms.", () -> {
             AtTheDoor x = worth("3-who*6", 0, 1);
@@ -132,6 +139,8 @@ final class OpenBoundaries {
             peeps("as it is now, not with one more heard",
                     Houses.ruled("comes 1-signs;worth (3-who*6)*(signs=0);costs 0;", 0, 1), 1, 3, 8);
             peeps("none is worth anything", worth("0", 0, 1), 1, 0, 1);
+            // S of knock 12 * 9 - 6 * 5, of the others 2 * 9 - 6 * 5: A 78, B 42, C 6 * 20 + 18.
+            peeps("seven", worth("10*(who=6)-1", 0, 0, 0, 0, 0, 0, 2), 1, 6, 23);
         });
     }
 

@@ -93,6 +93,17 @@ final class TextBoundaries {
                 b.due("the tape is empty", x.count(8), 0);
             }
             b.due("the first byte of another", x.feed('c'), 1);
+            AtTheDoor y = new AtTheDoor();
+            y.caller(0, 0);
+            for (int i = 1; i < 6; i++) {
+                b.due("the longest", Houses.text(y, longest(160 - 2 * i)), i);
+                y.force(i);
+                b.due("what it costs", y.gain(1), 1 - (136 - 2 * i) / 2);
+            }
+            AtTheDoor z = new AtTheDoor();
+            b.due("one that ends too early", Houses.text(z, "comes hour"), -110);
+            b.due("nothing of it is left", Houses.text(z, "comes hou"), -106);
+            b.due("nothing of it is left", Houses.text(z, "comes"), -105);
         });
         b.test(8, "-100 less the place of its FAULT.", () -> {
             AtTheDoor x = new AtTheDoor();
@@ -343,6 +354,11 @@ final class TextBoundaries {
         b.test(8, "of or, and, not, <, = 1 or 0 (what is not 0 is true).", () -> {
             tells(1, "7 or 9");
             tells(1, "-1 or 0");
+            tells(1, "0 or -1");
+            tells(5, "5 + (0 or 0)");
+            tells(5, "5 + (0 and 0)");
+            tells(5, "5 + (1 < 0)");
+            tells(5, "5 + (1 = 0)");
             tells(0, "0 or 0");
             tells(1, "7 and 9");
             tells(1, "-1 and -2");
@@ -380,6 +396,8 @@ final class TextBoundaries {
             faultAt(8, "comes (1");
             faultAt(23, "comes 1;worth 1;costs 1");
             faultAt(160, "comes 1" + " ".repeat(153));
+            faultAt(160, " ".repeat(153) + "comes 1");
+            faultAt(160, "comes" + " ".repeat(151) + "hour");
         });
         b.test(8, "also of a byte that begins none,", () -> {
             faultAt(0, "?");
@@ -393,6 +411,21 @@ final class TextBoundaries {
         b.test(8, "a WORD that is neither KEY nor NAME,", () -> {
             faultIn(0, "x");
             faultIn(2, "1 xor 1");
+            for (String word : new String[] {"hour", "day", "sort", "home", "signs", "who", "not"}) {
+                for (int i = 0; i < word.length(); i++) {
+                    faultIn(0, word.substring(0, i) + "x" + word.substring(i + 1) + " 1");
+                }
+            }
+            for (String word : new String[] {"or", "and"}) {
+                for (int i = 0; i < word.length(); i++) {
+                    faultIn(2, "1 " + word.substring(0, i) + "x" + word.substring(i + 1) + " 1");
+                }
+            }
+            for (int i = 0; i < 5; i++) {
+                faultAt(0, "comes".substring(0, i) + "x" + "comes".substring(i + 1) + " 1;worth 1;costs 1;");
+                faultAt(8, "comes 1;" + "worth".substring(0, i) + "x" + "worth".substring(i + 1) + " 1;costs 1;");
+                faultAt(16, "comes 1;worth 1;" + "costs".substring(0, i) + "x" + "costs".substring(i + 1) + " 1;");
+            }
             faultAt(0, "come 1;");
             faultAt(0, "x");
             faultAt(24, "comes 1;worth 1;costs 1;x");
