@@ -1,10 +1,12 @@
 import java.io.IOException;
+import java.lang.reflect.Modifier;
 import java.nio.file.Files;
 import java.nio.file.Path;
 import java.util.ArrayList;
 import java.util.List;
 import java.util.regex.Matcher;
 import java.util.regex.Pattern;
+import java.util.stream.Stream;
 
 /** Those rules of LANGUAGE.md that can be seen in the source's words. */
 public final class RulesTest {
@@ -78,6 +80,19 @@ public final class RulesTest {
         check(methods.size() > 100, "the methods were found: " + methods.size());
     }
 
+    /** Rule 11: some twelve classes, each of some twenty fields beside its constants. */
+    private static void checkSizes() {
+        List<Class<?>> classes = new ArrayList<>(List.of(AtTheDoor.class));
+        for (int i = 0; i < classes.size(); i++) {
+            Class<?> c = classes.get(i);
+            classes.addAll(List.of(c.getDeclaredClasses()));
+            long fields = Stream.of(c.getDeclaredFields()).filter(f -> !Modifier.isStatic(f.getModifiers())).count();
+            check(fields <= 20, "twenty fields at most: " + c.getName());
+            check(i == 0 || Modifier.isStatic(c.getModifiers()), "static: " + c.getName());
+        }
+        check(classes.size() <= 12, "twelve classes at most: " + classes.size());
+    }
+
     public static void main(String[] args) throws IOException {
         String source = Files.readString(Path.of("src/main/java/AtTheDoor.java"));
         for (int i = 0; i < source.length(); i++) {
@@ -87,6 +102,7 @@ public final class RulesTest {
         checkWords(code);
         checkStatics(code);
         checkNames(methodsOf(code.split("\n")));
+        checkSizes();
         System.out.println(wrong == 0 ? "the rules are kept" : wrong + " rules are broken");
         if (wrong != 0) {
             System.exit(1);
